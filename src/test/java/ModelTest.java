@@ -36,7 +36,7 @@ public final class ModelTest {
         test.due.holds("plans", test.planned > 5000);
         test.due.holds("spent plans", test.spent > 5000);
         test.due.holds("no plans", test.none > 500);
-        test.due.holds("causes", test.caused > 3000);
+        test.due.holds("causes", test.caused > 1500);
         test.due.holds("on a ride", test.rode > 1000);
         test.due.holds("riders of many rides", test.manyRiders > 500);
         test.due.close();
@@ -56,9 +56,10 @@ public final class ModelTest {
         // lateness is best seen in some runs where many rides are late, in others where few are
         most = random.nextInt(3) == 0 ? 200 : 12;
         for (int i = 0; i < CALLS && due.wrong() == 0; i++) {
-            Method call = calls.get(random.nextInt(calls.size()));
-            String name = call.getName();
             boolean setUp = i < 40;
+            List<Method> group = setUp && random.nextBoolean() ? only(calls, "house reel film") : calls;
+            Method call = group.get(random.nextInt(group.size()));
+            String name = call.getName();
             if (name.equals("house") && x.count(0) >= houses && random.nextInt(30) != 0
                 || name.equals("reel") && (x.count(1) >= reels || !setUp) && random.nextInt(30) != 0
                 || name.equals("order") && x.count(3) > 0 && random.nextInt(6) != 0

@@ -926,5 +926,9 @@ public final class PromiseTest {
         due.is("32 both sheets", x.count(6), 2);
         x.order(digits(1));
         due.is("32 no ride of one house", x.count(3), 0);
+        ReelNight y = withReels(6, 1, 2, 3, 4, 5, 6, 7, 8);
+        y.order(digits(5, 4, 3, 2, 1, 0));
+        due.is("32 frames of eight reels", y.count(5), 36 * 960);
+        due.is("32 rides at most", y.count(3), 40);
     }
 }
