@@ -50,7 +50,9 @@ final class BookingEdges {
                 }
             }
         }
-        e.says("T3", "of one FILM a week", TWO + "; bar 0 1 3; pin 0 0 1; pin 1 1 1; plan 1 20000 = 0; pin 0 1 1; plan 1 20000 = NO");
+        e.says("T3", "of one FILM a week", TWO + """
+            ; bar 0 1 3; pin 0 0 1; pin 1 1 1; plan 1 20000 = 0; pin 0 1 1; plan 1 20000 = NO
+            """);
         e.says("T3", "(1: not in the same week; 0, at first: no bar).", TWO + """
 
             pin 0 0 0; pin 0 1 0; plan 0 20000 = 0
@@ -174,7 +176,10 @@ final class BookingEdges {
         String spent = "SPENT: more than so many TRIES would be done.";
         takes(e, spent, "house 0 9; house 0 9; house 0 9; house 0 9; house 0 9; film; film; pin 1 0 1; pin 1 4 1; pin 1 4 2; "
             + "bar 0 3 3; bar 1 3 2; bar 2 3 3", 2, 20000);
-        e.says("T3", spent, TWO + "; film; film; film; house 0 9; plan 0 215 = 0; plan 1 20000 = SPENT; planned 0 0 = 0; planned 0 1 = NONE");
+        e.says("T3", spent, TWO + """
+            ; film; film; film; house 0 9; plan 0 214 = SPENT; planned 0 0 = NONE; plan 0 215 = 0
+            plan 1 20000 = SPENT; planned 0 0 = 0; planned 0 1 = NONE
+            """);
         // the first way is the best at once, and the others are tried all the same
         e.says("T3", "(All ways are tried.)", ONE + "; worth 0 0 999; pin 0 0 0; plan 1 1 = SPENT; plan 1 2 = 1498; pin NONE 0 0; "
             + "plan 1 2 = SPENT; plan 1 3 = 1498");
@@ -199,6 +204,10 @@ final class BookingEdges {
         e.only("P20", "BAD.", TWO, "bar $ 0 1", 1, 1);
         e.only("P20", "BAD.", TWO, "bar $ 1 1", 0, 0);
         e.only("P20", "BAD.", TWO, "bar 0 1 $", 0, 3);
+        // a bar of a house with itself would forbid the hold
+        e.says("P20", "BAD.", ONE + """
+            ; worth 0 0 8; bar 0 0 0 = BAD; bar 0 0 3 = BAD; plan 1 20000 = 12; planned 0 1 = 0
+            """);
         e.says("P21", "A FILM is PINNED at a HOUSE in a week (NONE: nothing is): what was (NONE).", TWO + """
 
             pin NONE 1 3 = NONE; pin 0 1 3 = NONE; pin 1 1 3 = 0; pin NONE 1 3 = 1; pin NONE 1 3 = NONE
@@ -226,7 +235,8 @@ final class BookingEdges {
 
             bar 0 1 1; plan 0 20000 = 0; planned 0 0 = 0; planned 1 0 = 1
             pin 0 0 1; pin 0 1 1
-            plan 1 13 = NO; plan 1 12 = SPENT; plan 1 1 = SPENT; plan 1 0 = BAD; plan 1 20001 = BAD; plan 4 1 = BAD; plan -1 1 = BAD
+            plan 1 13 = NO; plan 1 12 = SPENT; plan 1 1 = SPENT; plan 1 0 = BAD; plan 1 20001 = BAD; plan 4 1 = BAD
+            plan -1 1 = BAD
             planned 0 0 = 0; planned 1 0 = 1; planned 0 1 = NONE; planned 1 1 = NONE
             """);
     }

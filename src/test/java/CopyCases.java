@@ -46,12 +46,14 @@ final class CopyCases {
             }
         }
         int want = due(from, place, to, at, many);
-        String call = "sheets of " + sizes[0] + ", " + sizes[1] + ": copy " + from + " " + place + " " + to + " " + at + " " + many;
+        String call = "sheets of " + sizes[0] + ", " + sizes[1] + ": copy " + from + " " + place + " " + to + " " + at
+            + " " + many;
         due.is(call, talk.ask("copy", from, place, to, at, many), want);
         for (int s = 0; s < 2; s++) {
             for (int i = 0; i < sizes[s]; i++) {
                 boolean copied = want >= 0 && s == to && i >= at && i < at + many;
-                due.is(call + ": place " + i + " of " + s, talk.ask("mark", s, i, 0), copied ? first(from, place + i - at) : first(s, i));
+                due.is(call + ": place " + i + " of " + s, talk.ask("mark", s, i, 0),
+                    copied ? first(from, place + i - at) : first(s, i));
             }
         }
     }
@@ -67,7 +69,8 @@ final class CopyCases {
         if (sizes[from] == MISSING || sizes[to] == MISSING) {
             return ReelNight.NOTHING;
         }
-        boolean isThere = place >= 0 && at >= 0 && many >= 0 && (long) place + many <= sizes[from] && (long) at + many <= sizes[to];
+        boolean isThere = place >= 0 && at >= 0 && many >= 0 && (long) place + many <= sizes[from]
+            && (long) at + many <= sizes[to];
         return isThere ? many : ReelNight.INDEX;
     }
 }

@@ -160,8 +160,12 @@ final class HouseEdges {
         e.only("P4", "BAD: no such HOUSES,", TWO + ";" + "house 0 9", "way 1 $ 5", 2, 2);
         e.only("P4", "BAD: no such HOUSES,", TWO, "way $ 1 5", 0, 0);
         e.only("P4", "BAD: no such HOUSES,", TWO, "way $ 0 5", 1, 1);
-        e.says("P4", "the same,", TWO + "; way 0 0 0 = BAD; way 1 1 0 = BAD; way 1 1 99 = BAD; way 2 2 5 = BAD; way -1 -1 5 = BAD");
-        e.says("P4", "v.", TWO + "; way 0 1 -1 = BAD; way 0 1 100 = BAD; way 0 1 MIN = BAD; way 0 1 MAX = BAD; way 0 1 10 = 10");
+        e.says("P4", "the same,", TWO + """
+            ; way 0 0 0 = BAD; way 1 1 0 = BAD; way 1 1 99 = BAD; way 2 2 5 = BAD; way -1 -1 5 = BAD
+            """);
+        e.says("P4", "v.", TWO + """
+            ; way 0 1 -1 = BAD; way 0 1 100 = BAD; way 0 1 MIN = BAD; way 0 1 MAX = BAD; way 0 1 10 = 10
+            """);
         e.says("P5", "SLACK of a HOUSE becomes v: what it was.", TWO + """
 
             slack 1 9 = 0; slack 1 0 = 9; slack 1 4 = 0; slack 0 1 = 0; slack 1 4 = 4

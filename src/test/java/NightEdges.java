@@ -106,7 +106,8 @@ final class NightEdges {
             """);
         e.says("T2", "from the HOUSE ahead in THE ORDER,", REELS_4_6_2 + """
             order @201
-            ride 0 1 = 2; ride 0 2 = 0; ride 2 1 = 2; ride 2 2 = 0; ride 3 1 = 0; ride 3 2 = 1; ride 5 1 = 0; ride 5 2 = 1
+            ride 0 1 = 2; ride 0 2 = 0; ride 2 1 = 2; ride 2 2 = 0; ride 3 1 = 0; ride 3 2 = 1; ride 5 1 = 0
+            ride 5 2 = 1
             """);
         e.says("T2", "beginning at the minute at which it ends there (by THE STARTS), ending WAY later;", REELS_4_6_2 + """
             order @201; way 0 2 0; way 0 1 99; late 0 200; late 1 200
@@ -170,7 +171,8 @@ final class NightEdges {
             0, 0, 200);
         e.says("T2", "LATE: so many minutes (0 .. 200) more each RIDE takes", TWO + """
 
-            reel 960; order @01; begins 1 0 = 11; late 0 1; begins 1 0 = 12; late 0 200; begins 1 0 = 211; where 0 210 = 100
+            reel 960; order @01; begins 1 0 = 11; late 0 1; begins 1 0 = 12; late 0 200; begins 1 0 = 211
+            where 0 210 = 100
             """);
         e.says("T2", "(0 at first; all are 0 whenever THE ORDER is told).", THREE + """
 
@@ -267,7 +269,9 @@ final class NightEdges {
             cause 2 2 = 1                                                # from this one down: reel 1 ahead of reel 0
             late 2 23; begins 1 2 = 55; cause 2 2 = 2; late 5 1; cause 2 2 = 5
             """);
-        e.says("T2", "else none.", JUST_IN_TIME + "cause 1 0 = NONE; late 8 9 = 0; cause 3 2 = 8; cause 2 2 = NONE; cause 3 1 = NONE");
+        e.says("T2", "else none.", JUST_IN_TIME + """
+            cause 1 0 = NONE; late 8 9 = 0; cause 3 2 = 8; cause 2 2 = NONE; cause 3 1 = NONE
+            """);
     }
 
     private static void promiseOfOrder(Edges e) {
@@ -345,11 +349,16 @@ final class NightEdges {
             late 8 9; waited 3 = 9; waited 2 = 0; waited 0 = 0; order @3210; waited 3 = 0
             """);
         e.only("P15", "BAD.", JUST_IN_TIME, "waited $", 0, 3);
-        e.says("P16", "THE CAUSE of the GAP of a REEL at the k-th HOUSE, a RIDE", JUST_IN_TIME + "late 8 9; cause 3 2 = 8");
-        e.says("P16", "(also if SLACK takes all of it);", JUST_IN_TIME + """
-            slack 1 9; late 1 9; waited 1 = 0; cause 1 1 = 1; late 1 1; waited 1 = 0; cause 1 1 = 1; late 1 0; cause 1 1 = NONE
+        e.says("P16", "THE CAUSE of the GAP of a REEL at the k-th HOUSE, a RIDE", JUST_IN_TIME + """
+            late 8 9; cause 3 2 = 8
             """);
-        e.says("P16", "NONE.", JUST_IN_TIME + "cause 0 0 = NONE; cause 3 2 = NONE; late 8 1; cause 3 2 = 8; cause 3 1 = NONE");
+        e.says("P16", "(also if SLACK takes all of it);", JUST_IN_TIME + """
+            slack 1 9; late 1 9; waited 1 = 0; cause 1 1 = 1; late 1 1; waited 1 = 0; cause 1 1 = 1; late 1 0
+            cause 1 1 = NONE
+            """);
+        e.says("P16", "NONE.", JUST_IN_TIME + """
+            cause 0 0 = NONE; cause 3 2 = NONE; late 8 1; cause 3 2 = 8; cause 3 1 = NONE
+            """);
         e.only("P16", "BAD.", JUST_IN_TIME, "cause $ 0", 0, 3);
         e.only("P16", "BAD.", JUST_IN_TIME, "cause 3 $", 0, 2);
     }
@@ -370,7 +379,9 @@ final class NightEdges {
             where 1 0 = BAD; where -1 0 = BAD; where 0 -1 = BAD; where 0 10000 = BAD
             order @0; where 0 0 = 0; order 0; where 0 0 = NONE
             """);
-        e.says("P17", "(It is at the first HOUSE at first;", twoReels + "where 0 0 = 2; where 0 3 = 2; where 1 0 = 2; where 1 9 = 2");
+        e.says("P17", "(It is at the first HOUSE at first;", twoReels + """
+            where 0 0 = 2; where 0 3 = 2; where 1 0 = 2; where 1 9 = 2
+            """);
         e.says("P17", "on its RIDE from the minute at which it has ended till it comes;", twoReels + """
             where 1 9 = 2; where 1 10 = 101; where 1 19 = 101; where 1 20 = 0
             where 1 25 = 0; where 1 26 = 103; where 1 35 = 103; where 1 36 = 1

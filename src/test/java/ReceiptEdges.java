@@ -43,9 +43,10 @@ final class ReceiptEdges {
             rule 0 1; share 0 33 = 0; share 0 34 = 1; share 3 999 = 79; share 1 20 = 1; share 1 19 = 0
             rule 0 99; share 3 1 = 7; share 2 1 = 1; rule 0 100; share 3 1 = 8
             """);
-        e.becomes("T4", "of PALACES (and ROYALS) never less than their LEAST (0 .. 9999; 0 at first).", KINDS, "least 1 $", 0, 0, 9999);
-        e.becomes("T4", "of PALACES (and ROYALS) never less than their LEAST (0 .. 9999; 0 at first).", KINDS, "least 3 $", 0, 0, 9999);
-        e.says("T4", "of PALACES (and ROYALS) never less than their LEAST (0 .. 9999; 0 at first).", KINDS + """
+        String least = "of PALACES (and ROYALS) never less than their LEAST (0 .. 9999; 0 at first).";
+        e.becomes("T4", least, KINDS, "least 1 $", 0, 0, 9999);
+        e.becomes("T4", least, KINDS, "least 3 $", 0, 0, 9999);
+        e.says("T4", least, KINDS + """
             least 1 20; least 3 9999
             share 1 9 = 20; share 1 10 = 20; share 1 11 = 22; share 1 0 = 20      # 18, 20, 22 by percent
             share 3 999 = 9999; share 3 0 = 9999; share 0 0 = 0; share 2 0 = 0
@@ -56,7 +57,8 @@ final class ReceiptEdges {
 
     private static void checkers(Edges e) {
         e.names("T4", "CHECKERS: a HOUSE is checked in week w if (v >>> 8) % 100 is below ODDS");
-        e.names("T4", "v being SEED (1 at first) that becomes v * 1664525 + 1013904223 (ints that wrap), (6 * w and its number and 1) times.");
+        e.names("T4", "v being SEED (1 at first) that becomes v * 1664525 + 1013904223 (ints that wrap), "
+            + "(6 * w and its number and 1) times.");
         for (int i = 0; i < SEEDS.length; i++) {
             for (int draw = 0; draw < 24; draw++) {
                 Talk talk = new Talk().tell(SIX);
@@ -76,7 +78,9 @@ final class ReceiptEdges {
             house 0 9; rule 2 18; rule 1 0; checked 0 = 0; rule 1 1; checked 0 = 1
             rule 2 115; rule 1 99; checked 0 = 0; rule 1 100; checked 0 = 1
             """);
-        e.says("T4", "ODDS (0 .. 100; 20 at first),", SIX + "checked 0 = 0; checked 1 = 4; checked 2 = 6; checked 3 = 6");
+        e.says("T4", "ODDS (0 .. 100; 20 at first),", SIX + """
+            checked 0 = 0; checked 1 = 4; checked 2 = 6; checked 3 = 6
+            """);
         e.says("T4", "v being SEED (1 at first)", SIX + "rule 1 66; checked 0 = 3; rule 2 1 = 1; checked 0 = 3");
     }
 
@@ -91,7 +95,8 @@ final class ReceiptEdges {
             shares 0 = 3; shares 1 = 6; shares 2 = 0; shares 3 = 12
             """);
         e.says("T4", "or MISSING (at first).", """
-            count 6 = 0; mark 0 0 0 = NOTHING; mark 1 0 0 = NOTHING; shares 0 = NOTHING; sheet 0 0 = 0; mark 0 0 0 = INDEX
+            count 6 = 0; mark 0 0 0 = NOTHING; mark 1 0 0 = NOTHING; shares 0 = NOTHING; sheet 0 0 = 0
+            mark 0 0 0 = INDEX
             mark 1 0 0 = NOTHING; shares 0 = 0; count 6 = 1
             """);
         e.says("T4", "FINDINGS: NOTHING: a SHEET is MISSING;", """
@@ -102,27 +107,38 @@ final class ReceiptEdges {
             sheet 0 3; mark 0 2 0 = 0; mark 0 3 0 = INDEX; mark 0 -1 0 = INDEX; mark 0 23 0 = INDEX; mark 0 24 0 = INDEX
             mark 0 MIN 0 = INDEX; mark 0 MAX 0 = INDEX; sheet 0 24; mark 0 23 0 = 0; mark 0 24 0 = INDEX
             """);
-        e.says("T4", "SIZE: a number of places is below 0.", "sheet 0 -1 = SIZE; sheet 1 MIN = SIZE; sheet 0 0 = 0; sheet 0 -1 = SIZE; count 6 = 1");
+        e.says("T4", "SIZE: a number of places is below 0.", """
+            sheet 0 -1 = SIZE; sheet 1 MIN = SIZE; sheet 0 0 = 0; sheet 0 -1 = SIZE; count 6 = 1
+            """);
     }
 
     private static void promisesOfRules(Edges e) {
         String rule = "PERCENT (which 0), ODDS (1), SEED (2: any) becomes v: what it was.";
         e.says("P24", rule, """
-            rule 0 0 = 40; rule 1 100 = 20; rule 2 MIN = 1; rule 2 MAX = MIN; rule 2 0 = MAX; rule 2 -1 = 0; rule 2 5 = -1
+            rule 0 0 = 40; rule 1 100 = 20; rule 2 MIN = 1; rule 2 MAX = MIN; rule 2 0 = MAX; rule 2 -1 = 0
+            rule 2 5 = -1
             rule 0 0 = 0; rule 1 100 = 100; rule 2 5 = 5
             """);
         e.only("P24", "BAD.", "film", "rule $ 50", 0, 2);
         e.only("P24", "BAD.", "film", "rule 0 $", 0, 100);
         e.only("P24", "BAD.", "film", "rule 1 $", 0, 100);
-        e.says("P24", "BAD.", "rule 3 0 = BAD; rule -1 0 = BAD; rule MIN 0 = BAD; rule 0 101 = BAD; rule 1 -1 = BAD; rule 0 40 = 40; rule 1 20 = 20; rule 2 1 = 1");
-        e.says("P25", "LEAST of a HOUSE becomes v: what it was.", KINDS + "least 1 9999 = 0; least 1 0 = 9999; least 3 7 = 0; least 1 1 = 0; least 3 7 = 7");
+        e.says("P24", "BAD.", """
+            rule 3 0 = BAD; rule -1 0 = BAD; rule MIN 0 = BAD; rule 0 101 = BAD; rule 1 -1 = BAD; rule 0 40 = 40
+            rule 1 20 = 20; rule 2 1 = 1
+            """);
+        e.says("P25", "LEAST of a HOUSE becomes v: what it was.", KINDS + """
+            least 1 9999 = 0; least 1 0 = 9999; least 3 7 = 0; least 1 1 = 0; least 3 7 = 7
+            """);
         e.only("P25", "BAD;", "house 1 9; house 3 9", "least $ 1", 0, 1);
         e.only("P25", "BAD;", KINDS, "least 1 $", 0, 9999);
         e.says("P25", "BAD; NO: it is no PALACE.", KINDS + """
-            least 0 0 = NO; least 0 9999 = NO; least 2 0 = NO; least 0 -1 = BAD; least 0 10000 = BAD; least 2 10000 = BAD
+            least 0 0 = NO; least 0 9999 = NO; least 2 0 = NO; least 0 -1 = BAD; least 0 10000 = BAD
+            least 2 10000 = BAD
             least 4 0 = BAD; least -1 0 = BAD; share 0 0 = 0; share 2 0 = 0
             """);
-        e.says("P26", "The renter's SHARE of a HOUSE with so many heads.", KINDS + "share 0 100 = 120; share 3 100 = 320");
+        e.says("P26", "The renter's SHARE of a HOUSE with so many heads.", KINDS + """
+            share 0 100 = 120; share 3 100 = 320
+            """);
         e.only("P26", "BAD: house,", KINDS, "share $ 0", 0, 3);
         e.only("P26", "heads 0 .. SEATS.", KINDS, "share 0 $", 0, 999);
         e.only("P26", "heads 0 .. SEATS.", "house 1 1", "share 0 $", 0, 1);
@@ -152,7 +168,8 @@ final class ReceiptEdges {
             sheet 1 24; shares 0 = NOTHING; sheet 0 25 = BAD; sheet 0 -1 = SIZE; shares 0 = NOTHING
             """);
         e.says("P28", "HOUSES that are checked in a week, as bits.", """
-            rule 1 100; checked 0 = 0; house 0 9; checked 3 = 1; house 0 9; house 0 9; checked 0 = 7; house 0 9; house 0 9; house 0 9
+            rule 1 100; checked 0 = 0; house 0 9; checked 3 = 1; house 0 9; house 0 9; checked 0 = 7; house 0 9
+            house 0 9; house 0 9
             checked 0 = 63; checked 3 = 63; rule 1 50; checked 0 = 2; checked 1 = 36; rule 1 0; checked 0 = 0
             """);
         e.only("P28", "BAD.", SIX, "checked $", 0, 3);
@@ -164,19 +181,31 @@ final class ReceiptEdges {
             sheet 0 1 = 1; mark 0 0 0 = 0; mark 0 1 0 = INDEX; sheet 0 24 = 24; mark 0 23 0 = 0        # nothing comes back
             sheet 1 0 = 0; mark 1 0 0 = INDEX
             """);
-        e.says("P29", "BAD: sheet,", "sheet -1 5 = BAD; sheet 2 5 = BAD; sheet MIN 5 = BAD; sheet MAX 5 = BAD; count 6 = 0; sheet 1 5 = 5");
-        e.says("P29", "n above 24;", "sheet 0 25 = BAD; sheet 0 MAX = BAD; count 6 = 0; sheet 0 24 = 24; mark 0 3 9; sheet 0 25 = BAD; mark 0 3 9 = 9");
+        e.says("P29", "BAD: sheet,", """
+            sheet -1 5 = BAD; sheet 2 5 = BAD; sheet MIN 5 = BAD; sheet MAX 5 = BAD; count 6 = 0; sheet 1 5 = 5
+            """);
+        e.says("P29", "n above 24;", """
+            sheet 0 25 = BAD; sheet 0 MAX = BAD; count 6 = 0; sheet 0 24 = 24; mark 0 3 9; sheet 0 25 = BAD
+            mark 0 3 9 = 9
+            """);
         e.says("P29", "SIZE.", """
             sheet 0 -1 = SIZE; sheet 0 MIN = SIZE; count 6 = 0; sheet 2 -1 = BAD; sheet -1 -1 = BAD; sheet -1 MIN = BAD
             sheet 0 4; mark 0 3 9; sheet 0 -1 = SIZE; mark 0 3 9 = 9
             """);
         e.says("P30", "A place of a SHEET becomes v (as a short): what it was.", """
             sheet 0 2; mark 0 1 32767 = 0; mark 0 1 -32768 = 32767; mark 0 1 32768 = -32768; mark 0 1 -32769 = -32768
-            mark 0 1 65535 = 32767; mark 0 1 65536 = -1; mark 0 1 MAX = 0; mark 0 1 MIN = -1; mark 0 1 70000 = 0; mark 0 1 0 = 4464
+            mark 0 1 65535 = 32767; mark 0 1 65536 = -1; mark 0 1 MAX = 0; mark 0 1 MIN = -1; mark 0 1 70000 = 0
+            mark 0 1 0 = 4464
             mark 0 0 1 = 0; sheet 1 2; mark 1 0 2 = 0; mark 0 0 1 = 1
             """);
-        e.says("P30", "BAD: sheet;", "sheet 0 1; sheet 1 1; mark -1 0 0 = BAD; mark 2 0 0 = BAD; mark MIN 0 0 = BAD; mark MAX 0 0 = BAD; mark 2 9 0 = BAD");
-        e.says("P30", "NOTHING;", "mark 0 0 0 = NOTHING; mark 0 -1 0 = NOTHING; mark 0 24 0 = NOTHING; mark 2 0 0 = BAD; sheet 0 1; mark 1 0 0 = NOTHING");
+        e.says("P30", "BAD: sheet;", """
+            sheet 0 1; sheet 1 1; mark -1 0 0 = BAD; mark 2 0 0 = BAD; mark MIN 0 0 = BAD; mark MAX 0 0 = BAD
+            mark 2 9 0 = BAD
+            """);
+        e.says("P30", "NOTHING;", """
+            mark 0 0 0 = NOTHING; mark 0 -1 0 = NOTHING; mark 0 24 0 = NOTHING; mark 2 0 0 = BAD; sheet 0 1
+            mark 1 0 0 = NOTHING
+            """);
         e.says("P30", "INDEX.", """
             sheet 0 5; mark 0 0 7 = 0; mark 0 4 9 = 0; mark 0 5 1 = INDEX; mark 0 -1 1 = INDEX; mark 0 MIN 1 = INDEX
             mark 0 MAX 1 = INDEX; mark 0 4 0 = 9; mark 0 0 0 = 7
@@ -186,40 +215,59 @@ final class ReceiptEdges {
     private static void promiseOfCopy(Edges e) {
         String row = "sheet 0 4; mark 0 0 1; mark 0 1 2; mark 0 2 3; mark 0 3 4; ";
         String words = "So many places of a SHEET come to another one (or the same), as they were: many.";
-        e.says("P31", words, row + "sheet 1 6; copy 0 1 1 3 3 = 3; mark 1 2 0 = 0; mark 1 3 0 = 2; mark 1 4 0 = 3; mark 1 5 0 = 4; mark 0 1 0 = 2");
-        e.says("P31", words, row + "copy 0 0 0 1 3 = 3; mark 0 0 0 = 1; mark 0 1 0 = 1; mark 0 2 0 = 2; mark 0 3 0 = 3    # upwards");
-        e.says("P31", words, row + "copy 0 1 0 0 3 = 3; mark 0 0 0 = 2; mark 0 1 0 = 3; mark 0 2 0 = 4; mark 0 3 0 = 4    # downwards");
+        e.says("P31", words, row + """
+            sheet 1 6; copy 0 1 1 3 3 = 3; mark 1 2 0 = 0; mark 1 3 0 = 2; mark 1 4 0 = 3; mark 1 5 0 = 4; mark 0 1 0 = 2
+            """);
+        e.says("P31", words, row + """
+            copy 0 0 0 1 3 = 3; mark 0 0 0 = 1; mark 0 1 0 = 1; mark 0 2 0 = 2; mark 0 3 0 = 3       # upwards
+            """);
+        e.says("P31", words, row + """
+            copy 0 1 0 0 3 = 3; mark 0 0 0 = 2; mark 0 1 0 = 3; mark 0 2 0 = 4; mark 0 3 0 = 4       # downwards
+            """);
         e.says("P31", words, row + "copy 0 0 0 0 4 = 4; mark 0 0 0 = 1; mark 0 3 0 = 4");
-        e.says("P31", words, "sheet 0 24; sheet 1 24; mark 0 0 -32768; mark 0 23 32767; copy 0 0 1 0 24 = 24; mark 1 0 0 = -32768; mark 1 23 0 = 32767");
+        e.says("P31", words, """
+            sheet 0 24; sheet 1 24; mark 0 0 -32768; mark 0 23 32767
+            copy 0 0 1 0 24 = 24; mark 1 0 0 = -32768; mark 1 23 0 = 32767
+            """);
         // no place at all may be asked for right behind the last one, as there is none that is not there
-        e.says("P31", words, row + "sheet 1 0; copy 0 0 1 0 0 = 0; copy 0 4 1 0 0 = 0; copy 1 0 0 4 0 = 0; copy 0 5 1 0 0 = INDEX; copy 0 0 1 1 0 = INDEX");
+        e.says("P31", words, row + """
+            sheet 1 0; copy 0 0 1 0 0 = 0; copy 0 4 1 0 0 = 0; copy 1 0 0 4 0 = 0; copy 0 5 1 0 0 = INDEX; copy 0 0 1 1 0 = INDEX
+            """);
         e.says("P31", "BAD;", row + """
             sheet 1 4; copy -1 0 0 0 1 = BAD; copy 2 0 0 0 1 = BAD; copy 0 0 -1 0 1 = BAD; copy 0 0 2 0 1 = BAD
             copy MIN 0 0 0 1 = BAD; copy 0 0 MAX 0 1 = BAD; copy 2 9 1 9 -1 = BAD; copy 0 9 2 9 9 = BAD
             """);
         e.says("P31", "NOTHING;", """
             copy 0 0 1 0 0 = NOTHING; copy 2 0 1 0 0 = BAD; copy 0 0 2 0 0 = BAD; copy 0 -1 1 99 -1 = NOTHING
-            sheet 0 4; copy 0 0 1 0 1 = NOTHING; copy 1 0 0 0 1 = NOTHING; copy 0 9 1 0 1 = NOTHING; copy 1 0 0 9 1 = NOTHING; copy 1 0 2 0 1 = BAD
+            sheet 0 4; copy 0 0 1 0 1 = NOTHING; copy 1 0 0 0 1 = NOTHING; copy 0 9 1 0 1 = NOTHING
+            copy 1 0 0 9 1 = NOTHING; copy 1 0 2 0 1 = BAD
             """);
         e.says("P31", "INDEX.", row + """
-            sheet 1 2; copy 0 2 1 0 2 = 2; copy 0 3 1 0 2 = INDEX; copy 0 1 1 0 3 = INDEX; copy 0 0 1 1 2 = INDEX; copy 1 0 0 3 2 = INDEX
-            copy 1 0 0 0 3 = INDEX; copy 0 -1 1 0 1 = INDEX; copy 0 0 1 -1 1 = INDEX; copy 0 0 0 0 5 = INDEX; copy 0 4 0 0 1 = INDEX
+            sheet 1 2; copy 0 2 1 0 2 = 2; copy 0 3 1 0 2 = INDEX; copy 0 1 1 0 3 = INDEX; copy 0 0 1 1 2 = INDEX
+            copy 1 0 0 3 2 = INDEX
+            copy 1 0 0 0 3 = INDEX; copy 0 -1 1 0 1 = INDEX; copy 0 0 1 -1 1 = INDEX; copy 0 0 0 0 5 = INDEX
+            copy 0 4 0 0 1 = INDEX
             copy 0 0 1 0 -1 = INDEX; copy 0 1 0 1 MIN = INDEX; copy 0 1 0 1 MAX = INDEX; copy 0 MAX 0 1 MAX = INDEX
             copy 0 MAX 0 0 1 = INDEX; copy 0 0 0 MAX 1 = INDEX; copy 0 MIN 0 0 1 = INDEX; copy 0 0 0 MIN MIN = INDEX
             mark 1 0 0 = 3; mark 1 1 0 = 4; mark 0 0 0 = 1; mark 0 3 0 = 4
             """);
-        e.says("P31", "(From a SHEET, its place, to a SHEET, its place.)", row + "sheet 1 3; copy 0 3 1 2 1 = 1; mark 1 2 8 = 4; copy 1 2 0 0 1 = 1; mark 0 0 0 = 8; mark 0 3 0 = 4");
+        e.says("P31", "(From a SHEET, its place, to a SHEET, its place.)", row + """
+            sheet 1 3; copy 0 3 1 2 1 = 1; mark 1 2 8 = 4; copy 1 2 0 0 1 = 1; mark 0 0 0 = 8; mark 0 3 0 = 4
+            """);
     }
 
     private static void promiseOfCount(Edges e) {
-        e.says("P32", "How many: 0 HOUSES, 1 REELS, 2 HOUSES in THE ORDER, 3 RIDES, 4 FILMS, 5 all FRAMES, 6 SHEETS that are not MISSING.",
-            SIX + """
+        e.says("P32", "How many: 0 HOUSES, 1 REELS, 2 HOUSES in THE ORDER, 3 RIDES, 4 FILMS, 5 all FRAMES, "
+            + "6 SHEETS that are not MISSING.", SIX + """
             reel 20000; reel 20000; reel 20000; reel 20000; reel 20000; reel 20000; reel 20000; reel 20000
             film; film; film; film; film; order @012345; sheet 0 0; sheet 1 24
             count 0 = 6; count 1 = 8; count 2 = 6; count 3 = 40; count 4 = 5; count 5 = 160000; count 6 = 2
-            mend 0 20000; mend 7 1; count 5 = 140000; order @5; count 2 = 1; count 3 = 0; order 0; count 2 = 0; count 3 = 0
+            mend 0 20000; mend 7 1; count 5 = 140000; order @5; count 2 = 1; count 3 = 0; order 0; count 2 = 0
+            count 3 = 0
             """);
-        e.says("P32", "6 SHEETS that are not MISSING.", "sheet 1 0; count 6 = 1; sheet 1 0; count 6 = 1; sheet 0 0; count 6 = 2");
+        e.says("P32", "6 SHEETS that are not MISSING.", """
+            sheet 1 0; count 6 = 1; sheet 1 0; count 6 = 1; sheet 0 0; count 6 = 2
+            """);
         e.only("P32", "BAD.", SIX, "count $", 0, 6);
     }
 

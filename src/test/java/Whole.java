@@ -130,7 +130,8 @@ final class Whole {
             for (int place = 0; place < 24 && there; place++) {
                 int was = talk.ask("mark", s, place, 0);
                 there = was > ReelNight.BAD;
-                all.append("place ").append(place).append(" of sheet ").append(s).append(": ").append(Talk.word(was)).append('\n');
+                all.append("place ").append(place).append(" of sheet ").append(s).append(": ");
+                all.append(Talk.word(was)).append('\n');
             }
         }
     }
